@@ -173,6 +173,15 @@ public final class ReadTest {
         x.undo();
         due.is("sign(0) without it", x.sign(0), RaisedDots.NONE);
         due.is("read() without it", x.read(), -11);
+
+        RaisedDots z = Due.felt(60, 1, 61, 1, 62, 1);
+        z.rest();
+        z.feel(60);
+        due.is("nothing of what was to be read earlier", z.read(), -12);
+        due.is("the end", z.fault(), 1);
+        z.rest();
+        Due.feel(z, 1, 2, 61);
+        due.is("nothing of it behind FIGURES", z.fault(), 3);
     }
 
     private static void edges() {
