@@ -7,51 +7,14 @@ public final class DriftTest {
 
     public static void main(String[] args) {
         byHand();
-        against(1, 12);
-        against(7, 12);
-        against(99, 5);
-        against(999999, 12);
-        full();
-        outside();
+        howMany();
+        seeds();
+        lettersTaken();
+        cellTaken();
+        takenAmongThemselves();
+        twelveAlready();
+        undone();
         due.close();
-    }
-
-    /** Seed 1: X is 16807, 282475249, 1622650073, 984943658, 1144108930, 470211272. */
-    private static void byHand() {
-        RaisedDots x = new RaisedDots();
-        due.is("drift(1, 1)", x.drift(1, 1), 1);
-        // 16807 by 3 leaves 1: three letters; by 5: 4, 3, 3: edd; 1144108930 by 30: 10; 470211272 by 5: 2
-        due.is("the rule", Due.rules(x), Due.code("edd") + " 40 2");
-        due.is("the same letters and cell are there", x.drift(1, 1), 0);
-        due.is("told(0)", x.told(0), 1);
-        due.is("none came, yet it can be undone", x.told(10), 2);
-        due.is("undo()", x.undo(), 1);
-        due.is("undo()", x.undo(), 0);
-        due.is("told(0)", x.told(0), 0);
-    }
-
-    private static void against(int seed, int n) {
-        long[] state = {seed};
-        List<String> want = new ArrayList<>();
-        List<String> letters = new ArrayList<>();
-        List<Integer> cells = new ArrayList<>();
-        for (int i = 0; i < n; i++) {
-            int many = 2 + lot(state) % 3;
-            StringBuilder word = new StringBuilder();
-            for (int j = 0; j < many; j++) {
-                word.append((char) (97 + lot(state) % 5));
-            }
-            int cell = 30 + lot(state) % 30;
-            int kind = lot(state) % 5;
-            if (!letters.contains(word.toString()) && !cells.contains(cell)) {
-                letters.add(word.toString());
-                cells.add(cell);
-                want.add(Due.code(word.toString()) + " " + cell + " " + kind);
-            }
-        }
-        RaisedDots x = new RaisedDots();
-        due.is("drift(" + n + ", " + seed + ")", x.drift(n, seed), want.size());
-        due.is("its rules", Due.rules(x), String.join(" / ", want));
     }
 
     private static int lot(long[] state) {
@@ -59,32 +22,165 @@ public final class DriftTest {
         return (int) state[0];
     }
 
-    private static void full() {
-        RaisedDots x = new RaisedDots();
-        for (int k = 0; k < 11; k++) {
-            x.rule(Due.code("z" + (char) (97 + k)), 30 + k, 0);
+    /** What a seed gives, one rule for each lot, whether it can be there or not. */
+    private static List<String[]> lots(int seed, int n) {
+        long[] state = {seed};
+        List<String[]> all = new ArrayList<>();
+        for (int i = 0; i < n; i++) {
+            int many = 2 + lot(state) % 3;
+            StringBuilder letters = new StringBuilder();
+            for (int j = 0; j < many; j++) {
+                letters.append((char) (97 + lot(state) % 5));
+            }
+            String cell = Integer.toString(30 + lot(state) % 30);
+            String kind = Integer.toString(lot(state) % 5);
+            all.add(new String[] {letters.toString(), cell, kind});
         }
-        int came = x.drift(12, 5);
-        due.is("no more than there is room for", came, 1);
-        due.is("told(0)", x.told(0), 12);
-        due.is("none when full, not refused", x.drift(12, 6), 0);
-        due.is("told(10)", x.told(10), 8);
-        x.undo();
-        due.is("told(0)", x.told(0), 12);
-        x.undo();
-        due.is("all of a drift undone at once", x.told(0), 11);
+        return all;
     }
 
-    private static void outside() {
-        RaisedDots x = new RaisedDots();
-        x.rule(28, 30, 0);
-        int[] noNumbers = {Integer.MIN_VALUE, -1, 0, 13, Integer.MAX_VALUE};
-        for (int n : noNumbers) {
-            due.refused("drift(" + n + ", 1)", x, y -> y.drift(n, 1), RaisedDots.OUTSIDE);
+    private static String shown(String[] rule) {
+        return Due.code(rule[0]) + " " + rule[1] + " " + rule[2];
+    }
+
+    /** The rules there, and those of the lots that can be there beside them. */
+    private static List<String> joined(List<String[]> there, List<String[]> lots) {
+        List<String[]> all = new ArrayList<>(there);
+        for (String[] lot : lots) {
+            boolean free = all.stream().noneMatch(r -> r[0].equals(lot[0]) || r[1].equals(lot[1]));
+            if (free && all.size() < 12) {
+                all.add(lot);
+            }
         }
-        int[] noSeeds = {Integer.MIN_VALUE, -1, 0, 1000000, Integer.MAX_VALUE};
-        for (int seed : noSeeds) {
-            due.refused("drift(1, " + seed + ")", x, y -> y.drift(1, seed), RaisedDots.OUTSIDE);
+        return all.stream().map(DriftTest::shown).toList();
+    }
+
+    private static void against(int n, int seed) {
+        List<String> want = joined(List.of(), lots(seed, n));
+        Dots x = new Dots();
+        due.is("drift(" + n + ", " + seed + ")", x.drift(n, seed), want.size());
+        due.is("the rules of drift(" + n + ", " + seed + ")", x.rules(), String.join(" / ", want));
+    }
+
+    /** Seed 1: X is 16807, 282475249, 1622650073, 984943658, 1144108930, 470211272. */
+    private static void byHand() {
+        due.says("2 and X left over by 3 letters, each 97 and X left over by 5; CELL 30 and X left over by 30; KIND X left over by 5");
+        Dots x = new Dots();
+        due.is("drift(1, 1)", x.drift(1, 1), 1);
+        // 16807 by 3 leaves 1: three letters; by 5: 4, 3, 3: edd; 1144108930 by 30: 10; 470211272 by 5: 2
+        due.is("the rule", x.rules(), Due.code("edd") + " 40 2");
+    }
+
+    private static void howMany() {
+        due.says("n RULES (1 .. 12) BY LOTS of a SEED (1 .. 999999): how many came. OUTSIDE.");
+        int[] none = {Integer.MIN_VALUE, -1, 0, 13, Integer.MAX_VALUE};
+        for (int n : none) {
+            Dots x = new Dots();
+            due.is("drift(" + n + ", 5)", x.drift(n, 5), RaisedDots.OUTSIDE);
+            due.is("RULES then", x.told(0), 0);
         }
+        for (int n = 1; n <= 12; n++) {
+            against(n, 5);
+        }
+    }
+
+    private static void seeds() {
+        due.says("X (the SEED at first) becomes what is left of (X times 16807) by 2147483647 ahead of each number wanted");
+        int[] none = {Integer.MIN_VALUE, -1, 0, 1000000, Integer.MAX_VALUE};
+        for (int seed : none) {
+            Dots x = new Dots();
+            due.is("drift(3, " + seed + ")", x.drift(3, seed), RaisedDots.OUTSIDE);
+            due.is("RULES then", x.told(0), 0);
+        }
+        int[] some = {1, 2, 7, 99, 127773, 127774, 500000, 999998, 999999};
+        for (int seed : some) {
+            against(1, seed);
+            against(12, seed);
+        }
+        Dots x = new Dots();
+        x.drift(2, 77);
+        String first = x.rules();
+        x.undo();
+        x.drift(3, 78);
+        x.undo();
+        x.drift(2, 77);
+        due.is("the same seed gives the same, whatever came earlier", x.rules(), first);
+    }
+
+    private static void lettersTaken() {
+        due.says("it is there, if it can be.");
+        Dots x = new Dots().withRule("edd", 41, 0);
+        due.is("drift(1, 1), its letters taken", x.drift(1, 1), 0);
+        due.is("the rules", x.rules(), Due.code("edd") + " 41 0");
+        due.is("it can be undone all the same", x.told(10), 2);
+        List<String[]> there = new ArrayList<>();
+        there.add(new String[] {"edd", "41", "0"});
+        List<String> want = joined(there, lots(1, 3));
+        Dots y = new Dots().withRule("edd", 41, 0);
+        due.is("drift(3, 1), the first one's letters taken", y.drift(3, 1), want.size() - 1);
+        due.is("those behind come as they would", y.rules(), String.join(" / ", want));
+    }
+
+    private static void cellTaken() {
+        due.says("it is there, if it can be.");
+        Dots x = new Dots().withRule("zz", 40, 0);
+        due.is("drift(1, 1), its cell taken", x.drift(1, 1), 0);
+        due.is("the rules", x.rules(), Due.code("zz") + " 40 0");
+        List<String[]> there = new ArrayList<>();
+        there.add(new String[] {"zz", "40", "0"});
+        List<String> want = joined(there, lots(1, 3));
+        Dots y = new Dots().withRule("zz", 40, 0);
+        due.is("drift(3, 1), the first one's cell taken", y.drift(3, 1), want.size() - 1);
+        due.is("those behind come as they would", y.rules(), String.join(" / ", want));
+        Dots z = new Dots();
+        due.is("drift(1, 1)", z.drift(1, 1), 1);
+        due.is("the same again", z.drift(1, 1), 0);
+    }
+
+    /** Two of the same lots with one cell, or the same letters: the earlier one is there. */
+    private static void takenAmongThemselves() {
+        due.says("No two have one CELL, or the same letters.");
+        int byCell = 0;
+        int byLetters = 0;
+        for (int seed = 1; seed <= 1000; seed++) {
+            List<String[]> lots = lots(seed, 12);
+            long cells = lots.stream().map(r -> r[1]).distinct().count();
+            long letters = lots.stream().map(r -> r[0]).distinct().count();
+            if (cells < 12 && letters == 12 && byCell < 5) {
+                byCell++;
+                against(12, seed);
+            }
+            if (cells == 12 && letters < 12 && byLetters < 5) {
+                byLetters++;
+                against(12, seed);
+            }
+        }
+        due.is("seeds with one cell twice", byCell, 5);
+        due.is("seeds with the same letters twice", byLetters, 5);
+    }
+
+    private static void twelveAlready() {
+        due.says("RULES (12 at most; none at first)");
+        Dots x = new Dots();
+        for (int k = 0; k < 11; k++) {
+            x.rule(Due.code("za") + k, 30 + k, 0);
+        }
+        due.is("drift(12, 5) with room for one", x.drift(12, 5), 1);
+        due.is("RULES", x.told(0), 12);
+        due.is("drift(12, 6) with twelve: none, but not refused", x.drift(12, 6), 0);
+        due.is("RULES", x.told(0), 12);
+        due.is("can be undone", x.told(10), 8);
+        due.is("drift(1, 1) with twelve", States.FULL.make().drift(1, 1), 0);
+    }
+
+    private static void undone() {
+        due.says("the latest of rule(), drop(), set(), drift(), text(), wipe() that was not refused");
+        Dots x = new Dots().withRule("zz", 40, 0);
+        x.drift(12, 5);
+        due.is("all of it at once", x.undo(), 1);
+        due.is("the rules", x.rules(), Due.code("zz") + " 40 0");
+        x.drift(1, 1);
+        due.is("one of which none came", x.undo(), 1);
+        due.is("the rules", x.rules(), Due.code("zz") + " 40 0");
     }
 }

@@ -1,6 +1,18 @@
-/** What the tests share: comparing answers with those that are due, and short ways to fill and show an object. */
+import java.io.IOException;
+import java.io.UncheckedIOException;
+import java.nio.file.Files;
+import java.nio.file.Path;
+import java.util.HashSet;
+import java.util.Set;
+
+/** What the tests share: comparing answers with those that are due, sentence by sentence of the document. */
 final class Due {
+    private static final Path DOCUMENT = Path.of("../shared/DOC.md");
+    private static String document;
+
     private final String test;
+    private String sentence = "";
+    private final Set<String> sentences = new HashSet<>();
     private int right = 0;
     private int wrong = 0;
 
@@ -8,12 +20,42 @@ final class Due {
         this.test = test;
     }
 
+    /** What follows is asked because of these words, which must stand in the document. */
+    void says(String words) {
+        sentence = words;
+        sentences.add(words);
+        note(document().contains(words), "the document's words", "are not there", words);
+    }
+
+    private static String document() {
+        if (document == null) {
+            try {
+                document = Files.readString(DOCUMENT).replaceAll("\\s+", " ");
+            } catch (IOException e) {
+                throw new UncheckedIOException(e);
+            }
+        }
+        return document;
+    }
+
     void is(String call, long got, long want) {
         note(got == want, call, Long.toString(got), Long.toString(want));
     }
 
     void is(String call, String got, String want) {
-        note(got.equals(want), call, got, want);
+        int same = 0;
+        while (same < Math.min(got.length(), want.length()) && got.charAt(same) == want.charAt(same)) {
+            same++;
+        }
+        note(got.equals(want), call, around(got, same), around(want, same));
+    }
+
+    /** Long answers are shown only where they differ. */
+    private static String around(String answer, int place) {
+        if (answer.length() <= 300) {
+            return "'" + answer + "'";
+        }
+        return "'.. " + answer.substring(Math.max(0, place - 60), Math.min(answer.length(), place + 60)) + " ..'";
     }
 
     private void note(boolean holds, String call, String got, String want) {
@@ -22,22 +64,27 @@ final class Due {
             return;
         }
         wrong++;
-        System.out.println(test + ": " + call + " answered " + got + ", due is " + want);
+        System.out.println(test + ": \"" + sentence + "\": " + call + " answered " + got + ", due is " + want);
     }
 
-    /** A call that is refused with an answer, and changes nothing. */
-    interface Call {
-        int on(RaisedDots x);
+    /** The call is refused so, and all that can be asked then is as it is without the call. */
+    void refused(String call, Dots.Maker maker, Dots.Call made, int want) {
+        is(call, made.on(maker.make()), want);
+        unchanged(call, maker, made);
     }
 
-    void refused(String call, RaisedDots x, Call made, int want) {
-        String before = all(x);
-        is(call, made.on(x), want);
-        is(call + " changes nothing", all(x), before);
+    /** All that can be asked behind the call is as it is without it. */
+    void unchanged(String call, Dots.Maker maker, Dots.Call made) {
+        String with = Seen.all(() -> {
+            Dots x = maker.make();
+            made.on(x);
+            return x;
+        });
+        is(call + " changes nothing", with, Seen.allKnown(maker));
     }
 
     void close() {
-        System.out.println(test + ": " + right + " answers as due, " + wrong + " not");
+        System.out.println(test + ": " + sentences.size() + " sentences, " + right + " answers as due, " + wrong + " not");
         if (wrong != 0) {
             System.exit(1);
         }
@@ -51,77 +98,11 @@ final class Due {
         return code;
     }
 
-    static void type(RaisedDots x, String text) {
-        for (char c : text.toCharArray()) {
-            x.text(c);
-        }
+    static Dots typed(String text) {
+        return new Dots().typed(text);
     }
 
-    static RaisedDots typed(String text) {
-        RaisedDots x = new RaisedDots();
-        type(x, text);
-        return x;
-    }
-
-    static void feel(RaisedDots x, int... cells) {
-        for (int cell : cells) {
-            x.feel(cell);
-        }
-    }
-
-    static RaisedDots felt(int... cells) {
-        RaisedDots x = new RaisedDots();
-        feel(x, cells);
-        return x;
-    }
-
-    static String cells(RaisedDots x) {
-        StringBuilder all = new StringBuilder();
-        for (int i = 0; x.cell(i) != RaisedDots.NONE; i++) {
-            all.append(i == 0 ? "" : " ").append(x.cell(i));
-        }
-        return all.toString();
-    }
-
-    /** The lines, parted by strokes. */
-    static String lines(RaisedDots x) {
-        StringBuilder all = new StringBuilder();
-        for (int line = 0; x.line(line, 0) != RaisedDots.NONE; line++) {
-            all.append(line == 0 ? "" : " / ");
-            for (int i = 0; x.line(line, i) != RaisedDots.NONE; i++) {
-                all.append(i == 0 ? "" : " ").append(x.line(line, i));
-            }
-        }
-        return all.toString();
-    }
-
-    static String signs(RaisedDots x) {
-        StringBuilder all = new StringBuilder();
-        for (int i = 0; x.sign(i) != RaisedDots.NONE; i++) {
-            all.append((char) x.sign(i));
-        }
-        return all.toString();
-    }
-
-    static String rules(RaisedDots x) {
-        StringBuilder all = new StringBuilder();
-        for (int k = 0; k < x.told(0); k++) {
-            all.append(k == 0 ? "" : " / ");
-            for (int what = 0; what <= 2; what++) {
-                all.append(what == 0 ? "" : " ").append(x.ofRule(k, what));
-            }
-        }
-        return all.toString();
-    }
-
-    /** All that can be seen of an object. */
-    static String all(RaisedDots x) {
-        StringBuilder all = new StringBuilder();
-        for (int what = 0; what <= 10; what++) {
-            all.append(x.told(what)).append(' ');
-        }
-        all.append("rules ").append(rules(x)).append(" cells ").append(cells(x)).append(" lines ").append(lines(x));
-        all.append(" read ").append(x.read()).append(' ').append(x.fault()).append(' ').append(signs(x));
-        return all.toString();
+    static Dots felt(int... cells) {
+        return new Dots().felt(cells);
     }
 }

@@ -7,7 +7,7 @@ public final class ModelTest {
         ",", "ddd", "edcba", "cabbage", "DEAD", "1.a", "7,c", "x", "k", "aa", "bcd", "EE"};
 
     private final Random chance;
-    private final RaisedDots x = new RaisedDots();
+    private final Dots x = new Dots();
     private final Model model = new Model();
     private final StringBuilder run = new StringBuilder();
 

@@ -1,38 +1,87 @@
 /** Promise 1, and the constants. */
 public final class NewObjectTest {
+    private static final Due due = new Due("NewObjectTest");
+
     public static void main(String[] args) {
-        Due due = new Due("NewObjectTest");
-        RaisedDots x = new RaisedDots();
-        int[] first = {0, 20, 5, 0, 0, 0, 0, 0, 0, 0, 0};
-        for (int what = 0; what < first.length; what++) {
-            due.is("told(" + what + ")", x.told(what), first[what]);
+        eachCall();
+        widthAndHeight();
+        eachIsItsOwn();
+        constants();
+        due.close();
+    }
+
+    private static void first(String call, Dots.Call made, int want) {
+        due.is(call + " on a new object", made.on(new Dots()), want);
+    }
+
+    /** Each call is the first one of an object of its own. */
+    private static void eachCall() {
+        due.says("No RULES, no THE TEXT, no CELLS to be read.");
+        first("rule(28, 30, 0)", x -> x.rule(28, 30, 0), 0);
+        first("drop(0)", x -> x.drop(0), RaisedDots.UNKNOWN);
+        first("drift(1, 1)", x -> x.drift(1, 1), 1);
+        first("text(97)", x -> x.text(97), 1);
+        first("wipe()", x -> x.wipe(), 0);
+        first("undo()", x -> x.undo(), RaisedDots.NOT);
+        int[] told = {0, 20, 5, 0, 0, 0, 0, 0, 0, 0, 0};
+        for (int i = 0; i < told.length; i++) {
+            int what = i;
+            first("told(" + what + ")", x -> x.told(what), told[what]);
         }
-        due.is("cell(0)", x.cell(0), RaisedDots.NONE);
-        due.is("line(0, 0)", x.line(0, 0), RaisedDots.NONE);
-        due.is("ofRule(0, 0)", x.ofRule(0, 0), RaisedDots.UNKNOWN);
-        for (int cell = 0; cell <= 63; cell++) {
-            due.is("by(" + cell + ")", x.by(cell), RaisedDots.NONE);
+        first("cell(0)", x -> x.cell(0), RaisedDots.NONE);
+        first("line(0, 0)", x -> x.line(0, 0), RaisedDots.NONE);
+        for (int i = 0; i <= 5; i++) {
+            int what = i;
+            first("ofRule(0, " + what + ")", x -> x.ofRule(0, what), RaisedDots.UNKNOWN);
         }
-        due.is("read()", x.read(), 0);
-        due.is("fault()", x.fault(), RaisedDots.NONE);
-        due.is("sign(0)", x.sign(0), RaisedDots.NONE);
-        due.is("rest()", x.rest(), 0);
-        due.is("undo()", x.undo(), RaisedDots.NOT);
-        due.is("goBack(0)", x.goBack(0), RaisedDots.NOT);
-        due.is("goBack(1)", x.goBack(1), RaisedDots.NOT);
-        due.is("wipe()", x.wipe(), 0);
+        for (int i = 0; i <= 63; i++) {
+            int cell = i;
+            first("by(" + cell + ")", x -> x.by(cell), RaisedDots.NONE);
+        }
+        first("feel(1)", x -> x.feel(1), 1);
+        first("feelAll()", x -> x.feelAll(), 0);
+        first("read()", x -> x.read(), 0);
+        first("fault()", x -> x.fault(), RaisedDots.NONE);
+        first("sign(0)", x -> x.sign(0), RaisedDots.NONE);
+        first("rest()", x -> x.rest(), 0);
+        for (int i = 0; i <= 1; i++) {
+            int image = i;
+            first("keep(" + image + ")", x -> x.keep(image), 0);
+            first("goBack(" + image + ")", x -> x.goBack(image), RaisedDots.NOT);
+        }
+    }
+
+    private static void widthAndHeight() {
+        due.says("LAID in lines of W CELLS (4 .. 40; 20 at first), PAGES of P lines (1 .. 20; 5 at first)");
+        first("set(0, 4)", x -> x.set(0, 4), 20);
+        first("set(1, 1)", x -> x.set(1, 1), 5);
+        due.is("20 cells in a row: lines", Due.typed("a".repeat(20)).told(7), 1);
+        due.is("21 cells in a row: lines", Due.typed("a".repeat(21)).told(7), 2);
+        due.is("5 lines: PAGES", Due.typed("a".repeat(100)).told(8), 1);
+        due.is("6 lines: PAGES", Due.typed("a".repeat(101)).told(8), 2);
+    }
+
+    private static void eachIsItsOwn() {
+        due.says("No RULES, no THE TEXT, no CELLS to be read.");
+        String alone = Seen.all(Dots::new);
+        due.is("a new object beside a full one", Seen.all(() -> {
+            States.FULL.make();
+            return new Dots();
+        }), alone);
+        due.is("a new object, then changes to another", Seen.all(() -> {
+            Dots x = new Dots();
+            States.FULL.make();
+            return x;
+        }), alone);
+    }
+
+    private static void constants() {
+        due.says("NONE is -1.");
         due.is("NONE", RaisedDots.NONE, -1);
+        due.says("They are far below all that is counted: -1000000001 and on.");
         due.is("UNKNOWN", RaisedDots.UNKNOWN, -1000000001);
         due.is("OUTSIDE", RaisedDots.OUTSIDE, -1000000002);
         due.is("NOT", RaisedDots.NOT, -1000000003);
         due.is("FULL", RaisedDots.FULL, -1000000004);
-
-        RaisedDots one = new RaisedDots();
-        one.rule(28, 30, 0);
-        one.text(97);
-        one.feel(1);
-        one.keep(0);
-        due.is("a second object has nothing of the first", Due.all(new RaisedDots()), "0 20 5 0 0 0 0 0 0 0 0 rules  cells  lines  read 0 -1 ");
-        due.close();
     }
 }

@@ -4,67 +4,142 @@ public final class RuleTest {
 
     public static void main(String[] args) {
         numbers();
-        outside();
+        leastAndGreatestCodes();
+        tooFewOrTooManyLetters();
+        nothingAtALettersPlace();
+        belowZeroAndFarAway();
+        cells();
+        kinds();
         taken();
         full();
         due.close();
     }
 
-    private static void numbers() {
-        RaisedDots x = new RaisedDots();
-        due.is("two letters", x.rule(28, 30, 0), 0);
-        due.is("three letters", x.rule(Due.code("the"), 31, 1), 1);
-        due.is("four letters, the last code", x.rule(531440, 59, 4), 2);
-        due.is("the last code of two letters", x.rule(728, 32, 2), 3);
-        due.is("the first code of three letters", x.rule(757, 33, 3), 4);
-        due.is("the first code of four letters", x.rule(20440, 34, 0), 5);
-        due.is("the last code of three letters", x.rule(19682, 35, 0), 6);
-        due.is("the rules", Due.rules(x), "28 30 0 / " + Due.code("the") + " 31 1 / 531440 59 4 / 728 32 2 / 757 33 3 / 20440 34 0 / 19682 35 0");
-        due.is("how many can be undone", x.told(10), 7);
+    private static void outside(int code, int cell, int kind) {
+        Dots x = new Dots();
+        due.is("rule(" + code + ", " + cell + ", " + kind + ")", x.rule(code, cell, kind), RaisedDots.OUTSIDE);
+        due.is("RULES then", x.told(0), 0);
     }
 
-    private static void outside() {
-        RaisedDots x = new RaisedDots();
-        x.rule(28, 30, 0);
-        int[] noCodes = {Integer.MIN_VALUE, -28, -1, 0, 1, 26, 27, 54, 729, 756, 730, 19683, 20439, 531441, 531442, Integer.MAX_VALUE,
-            27 * 27 * 5, 28 * 27, 28 * 27 * 27, 28 * 27 * 27 * 27};
-        for (int code : noCodes) {
-            due.refused("rule(" + code + ", 31, 0)", x, y -> y.rule(code, 31, 0), RaisedDots.OUTSIDE);
+    private static void holds(int code, int cell, int kind) {
+        Dots x = new Dots();
+        due.is("rule(" + code + ", " + cell + ", " + kind + ")", x.rule(code, cell, kind), 0);
+        due.is("the rule", x.rules(), code + " " + cell + " " + kind);
+    }
+
+    private static void numbers() {
+        due.says("What has a number has it from 0 on, as it comes.");
+        Dots x = new Dots();
+        due.is("the first", x.rule(Due.code("ab"), 44, 2), 0);
+        due.is("the second", x.rule(Due.code("the"), 31, 1), 1);
+        due.is("the third", x.rule(Due.code("tion"), 59, 3), 2);
+        due.is("the rules", x.rules(), "29 44 2 / 14801 31 1 / 400640 59 3");
+        due.is("how many can be undone", x.told(10), 3);
+    }
+
+    private static void leastAndGreatestCodes() {
+        due.says("(a CODE: 0, then for each letter 27 times as much, and the letter less 96; 2 to 4 letters)");
+        String[] letters = {"aa", "zz", "aaa", "zzz", "aaaa", "zzzz", "az", "za", "aza", "zaz", "azza", "zaaz"};
+        int[] codes = {28, 728, 757, 19682, 20440, 531440, 53, 703, 1432, 19007, 39340, 512540};
+        for (int i = 0; i < letters.length; i++) {
+            holds(codes[i], 30, 0);
+            Dots x = new Dots();
+            x.rule(codes[i], 30, 0);
+            x.feel(30);
+            due.is("the letters of " + codes[i], x.signs(), letters[i]);
+            x.typed(letters[i]);
+            due.is("the cells of " + letters[i], x.cells(), "30");
         }
-        int[] noCells = {Integer.MIN_VALUE, -1, 0, 1, 29, 60, 61, 62, 63, 64, Integer.MAX_VALUE};
-        for (int cell : noCells) {
-            due.refused("rule(29, " + cell + ", 0)", x, y -> y.rule(29, cell, 0), RaisedDots.OUTSIDE);
+    }
+
+    private static void tooFewOrTooManyLetters() {
+        due.says("OUTSIDE (a CODE of no such letters, too)");
+        outside(0, 30, 0);
+        outside(Due.code("a"), 30, 0);
+        outside(Due.code("z"), 30, 0);
+        outside(Due.code("aaaaa"), 30, 0);
+        outside(Due.code("zzzzz"), 30, 0);
+        outside(Due.code("aaaaaa"), 30, 0);
+    }
+
+    private static void nothingAtALettersPlace() {
+        due.says("OUTSIDE (a CODE of no such letters, too)");
+        int[][] places = {{1, 0}, {26, 0}, {1, 0, 1}, {1, 1, 0}, {1, 0, 0}, {26, 0, 26}, {26, 26, 0},
+            {1, 0, 1, 1}, {1, 1, 0, 1}, {1, 1, 1, 0}, {1, 0, 0, 1}, {1, 1, 0, 0}, {1, 0, 1, 0}, {1, 0, 0, 0},
+            {26, 0, 26, 26}, {26, 26, 0, 26}, {26, 26, 26, 0}, {1, 0, 0, 0, 0}, {1, 0, 1, 1, 1}};
+        for (int[] place : places) {
+            int code = 0;
+            for (int letter : place) {
+                code = code * 27 + letter;
+            }
+            outside(code, 30, 0);
         }
-        int[] noKinds = {Integer.MIN_VALUE, -1, 5, Integer.MAX_VALUE};
-        for (int kind : noKinds) {
-            due.refused("rule(29, 31, " + kind + ")", x, y -> y.rule(29, 31, kind), RaisedDots.OUTSIDE);
+        outside(27, 30, 0);
+        outside(729, 30, 0);
+        outside(19683, 30, 0);
+        outside(531441, 30, 0);
+    }
+
+    private static void belowZeroAndFarAway() {
+        due.says("OUTSIDE (a CODE of no such letters, too)");
+        int[] codes = {-1, -28, -757, -20440, -531440, Integer.MIN_VALUE, Integer.MIN_VALUE + 28, Integer.MAX_VALUE, Integer.MAX_VALUE - 1,
+            531441 + 28, 531441 + 20440, 1 << 30};
+        for (int code : codes) {
+            outside(code, 30, 0);
         }
-        due.refused("OUTSIDE ahead of NOT by letters", x, y -> y.rule(28, 31, 5), RaisedDots.OUTSIDE);
-        due.refused("OUTSIDE ahead of NOT by cell", x, y -> y.rule(27, 30, 0), RaisedDots.OUTSIDE);
+    }
+
+    private static void cells() {
+        due.says("a CELL 30 .. 59");
+        outside(28, 29, 0);
+        holds(28, 30, 0);
+        holds(28, 59, 0);
+        outside(28, 60, 0);
+        int[] none = {Integer.MIN_VALUE, -30, -1, 0, 1, 26, 27, 28, 61, 62, 63, 64, Integer.MAX_VALUE};
+        for (int cell : none) {
+            outside(28, cell, 0);
+        }
+    }
+
+    private static void kinds() {
+        due.says("a KIND: 0 anywhere in a WORD; 1 a whole WORD; 2 at the beginning of a WORD that goes on; "
+            + "3 at the end of a WORD that has something ahead; 4 within (something ahead, and behind).");
+        outside(28, 30, -1);
+        for (int kind = 0; kind <= 4; kind++) {
+            holds(28, 30, kind);
+        }
+        outside(28, 30, 5);
+        outside(28, 30, Integer.MIN_VALUE);
+        outside(28, 30, Integer.MAX_VALUE);
     }
 
     private static void taken() {
-        RaisedDots x = new RaisedDots();
-        x.rule(28, 30, 0);
-        x.rule(29, 31, 1);
-        due.refused("the same letters", x, y -> y.rule(28, 32, 0), RaisedDots.NOT);
-        due.refused("the same letters, another kind", x, y -> y.rule(28, 32, 3), RaisedDots.NOT);
-        due.refused("the same cell", x, y -> y.rule(30, 31, 0), RaisedDots.NOT);
-        due.refused("the same again", x, y -> y.rule(29, 31, 1), RaisedDots.NOT);
+        due.says("No two have one CELL, or the same letters.");
+        Dots x = new Dots().withRule("ab", 30, 0).withRule("abc", 31, 1);
+        due.is("the first one's cell", x.rule(Due.code("zz"), 30, 0), RaisedDots.NOT);
+        due.is("the last one's cell", x.rule(Due.code("zz"), 31, 0), RaisedDots.NOT);
+        due.is("the first one's letters", x.rule(Due.code("ab"), 40, 0), RaisedDots.NOT);
+        due.is("the last one's letters", x.rule(Due.code("abc"), 40, 0), RaisedDots.NOT);
+        due.is("the same letters, another kind", x.rule(Due.code("ab"), 40, 4), RaisedDots.NOT);
+        due.is("the same again", x.rule(Due.code("ab"), 30, 0), RaisedDots.NOT);
+        due.is("letters that begin alike", x.rule(Due.code("abcd"), 32, 0), 2);
+        due.is("the same letters in another order", x.rule(Due.code("ba"), 33, 0), 3);
         x.drop(0);
-        due.is("free again", x.rule(28, 30, 0), 1);
+        due.is("free again behind drop", x.rule(Due.code("ab"), 30, 3), 3);
+        x.undo();
+        due.is("free again behind undo", x.rule(Due.code("zz"), 30, 3), 3);
     }
 
     private static void full() {
-        RaisedDots x = new RaisedDots();
+        due.says("RULES (12 at most; none at first)");
+        Dots x = new Dots();
         for (int k = 0; k < 12; k++) {
             due.is("rule " + k, x.rule(28 + k, 30 + k, k % 5), k);
         }
-        due.refused("the thirteenth", x, y -> y.rule(100, 59, 0), RaisedDots.FULL);
-        due.refused("NOT ahead of FULL, by cell", x, y -> y.rule(100, 30, 0), RaisedDots.NOT);
-        due.refused("NOT ahead of FULL, by letters", x, y -> y.rule(28, 59, 0), RaisedDots.NOT);
-        due.refused("OUTSIDE ahead of FULL", x, y -> y.rule(100, 60, 0), RaisedDots.OUTSIDE);
+        due.is("the 13th", x.rule(100, 59, 0), RaisedDots.FULL);
+        due.is("RULES", x.told(0), 12);
         x.drop(3);
-        due.is("room again", x.rule(100, 59, 0), 11);
+        due.is("the 12th again", x.rule(100, 59, 0), 11);
+        due.is("the 13th again", x.rule(101, 58, 0), RaisedDots.FULL);
     }
 }
