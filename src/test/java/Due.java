@@ -8,6 +8,7 @@ import java.util.Set;
 /** What the tests share: comparing answers with those that are due, sentence by sentence of the document. */
 final class Due {
     private static final Path DOCUMENT = Path.of("../shared/DOC.md");
+    private static final long LONGEST_MILLISECONDS = 300_000;
     private static String document;
 
     private final String test;
@@ -18,6 +19,21 @@ final class Due {
 
     Due(String test) {
         this.test = test;
+        Thread watch = new Thread(() -> endLate(test));
+        watch.setDaemon(true);
+        watch.start();
+    }
+
+    /** A call that never ends must fail the test, not hold it up. */
+    private static void endLate(String test) {
+        try {
+            Thread.sleep(LONGEST_MILLISECONDS);
+        } catch (InterruptedException e) {
+            return;
+        }
+        System.out.println(test + ": does not end");
+        System.out.flush();
+        Runtime.getRuntime().halt(1);
     }
 
     /** What follows is asked because of these words, which must stand in the document. */

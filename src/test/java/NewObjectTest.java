@@ -6,6 +6,7 @@ public final class NewObjectTest {
         eachCall();
         widthAndHeight();
         eachIsItsOwn();
+        calls();
         constants();
         due.close();
     }
@@ -73,6 +74,26 @@ public final class NewObjectTest {
             States.FULL.make();
             return x;
         }), alone);
+    }
+
+    /** The 512th call still answers as the first ones do, whichever came ahead. */
+    private static void calls() {
+        due.says("An object is used for at most 512 calls after it has been made; what later calls answer is free.");
+        Dots.Call[] often = {x -> x.rule(28, 30, 0), x -> x.drop(0), x -> x.set(0, 4), x -> x.drift(12, 999999), x -> x.text(97), x -> x.wipe(),
+            x -> x.undo(), x -> x.told(6), x -> x.feel(59), x -> x.feelAll(), x -> x.read(), x -> x.rest(), x -> x.keep(1), x -> x.goBack(1)};
+        for (int i = 0; i < often.length; i++) {
+            for (int j = 0; j < often.length; j++) {
+                Dots x = new Dots();
+                for (int call = 0; call < 254; call++) {
+                    often[i].on(x);
+                    often[j].on(x);
+                }
+                x.wipe();
+                due.is("text(98) behind calls " + i + " and " + j, x.text(98), 1);
+                due.is("undo()", x.undo() >= 0 ? 1 : 0, 1);
+                due.is("the 512th call", x.told(3), 0);
+            }
+        }
     }
 
     private static void constants() {

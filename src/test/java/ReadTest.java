@@ -14,6 +14,7 @@ public final class ReadTest {
         figures();
         lettersPlace();
         lettersBehind();
+        wrongPlace();
         theFirstFault();
         theEnd();
         signs();
@@ -232,6 +233,27 @@ public final class ReadTest {
         reads("1aa", 61, 1, 62, 1, 1);
         reads("1aak", 61, 1, 62, 1, 1, 11);
         fails(2, 2, 61, 1, 62, 62, 1);
+    }
+
+    /** Each way to stand where one cannot: as the first cells, within, at the end. */
+    private static void wrongPlace() {
+        due.says("2 one that cannot stand there (what stands behind CAPITAL, FIGURES; LETTERS itself, where it must not be, "
+            + "or with something else behind it; the end).");
+        int[][] wrong = {{60, 0}, {60, 27}, {60, 30}, {60, 61}, {60, 62}, {60, 60, 0}, {60, 60, 29}, {60, 60, 60}, {60, 60, 61}, {60, 60, 62},
+            {61, 0}, {61, 11}, {61, 26}, {61, 28}, {61, 30}, {61, 60}, {61, 61}, {61, 62}, {60}, {60, 60}, {61}};
+        int[] places = {1, 1, 1, 1, 1, 2, 2, 2, 2, 2, 1, 1, 1, 1, 1, 1, 1, 1, 1, 2, 1};
+        int[][] ahead = {{}, {1, 30, 0}, {61, 1, 27}, {60, 60, 1}, {60, 1}, {61, 1, 62, 30}};
+        for (int[] row : ahead) {
+            for (int i = 0; i < wrong.length; i++) {
+                int[] cells = Arrays.copyOf(row, row.length + wrong[i].length);
+                System.arraycopy(wrong[i], 0, cells, row.length, wrong[i].length);
+                fails(2, row.length + places[i], cells);
+                if (row.length + places[i] < cells.length) {
+                    fails(2, row.length + places[i], with(cells, 1));
+                    fails(2, row.length + places[i], with(cells, 63));
+                }
+            }
+        }
     }
 
     private static void theFirstFault() {
