@@ -72,6 +72,13 @@ public final class DriftTest {
     }
 
     private static void howMany() {
+        due.says("BY LOTS of a SEED, n RULES more");
+        Dots more = new Dots().withRule("zz", 59, 4).withRule("zzz", 58, 3);
+        List<String[]> there = new ArrayList<>();
+        there.add(new String[] {"zz", "59", "4"});
+        there.add(new String[] {"zzz", "58", "3"});
+        due.is("drift(4, 21) beside two", more.drift(4, 21), joined(there, lots(21, 4)).size() - 2);
+        due.is("those that were there, and those of the lots behind", more.rules(), String.join(" / ", joined(there, lots(21, 4))));
         due.says("n RULES (1 .. 12) BY LOTS of a SEED (1 .. 999999): how many came. OUTSIDE.");
         int[] none = {Integer.MIN_VALUE, -1, 0, 13, Integer.MAX_VALUE};
         for (int n : none) {

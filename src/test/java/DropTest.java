@@ -28,7 +28,7 @@ public final class DropTest {
     }
 
     private static void aNumberLess() {
-        due.says("A RULE is no more (those behind have a number less): how many are left.");
+        due.says("A RULE is no more (those behind have a number less): how many are left. UNKNOWN.");
         String[] left = {"29 32 1 / 30 31 2 / 31 30 3", "28 33 0 / 30 31 2 / 31 30 3", "28 33 0 / 29 32 1 / 31 30 3", "28 33 0 / 29 32 1 / 30 31 2"};
         for (int k = 0; k < 4; k++) {
             Dots x = four();

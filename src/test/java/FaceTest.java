@@ -4,14 +4,16 @@ import java.lang.reflect.Method;
 import java.lang.reflect.Modifier;
 import java.nio.file.Files;
 import java.nio.file.Path;
+import java.util.ArrayList;
 import java.util.Arrays;
+import java.util.List;
 import java.util.Set;
 import java.util.TreeSet;
 import java.util.regex.Matcher;
 import java.util.regex.Pattern;
 import java.util.stream.Collectors;
 
-/** The public face of the document, and the rules of LANGUAGE.md that can be seen from outside or by words. */
+/** The public face of the document, and the rules of LANGUAGE.md that reflection shows. */
 public final class FaceTest {
     private static final Due due = new Due("FaceTest");
     private static final String[] FACE = {"by(int)", "cell(int)", "drift(int,int)", "drop(int)", "fault()", "feel(int)", "feelAll()",
@@ -19,9 +21,11 @@ public final class FaceTest {
         "sign(int)", "text(int)", "told(int)", "undo()", "wipe()"};
 
     public static void main(String[] args) throws Exception {
+        String text = Files.readString(Path.of("src/main/java/RaisedDots.java"));
         members();
+        written(text, Files.readString(Path.of("../shared/DOC.md")));
+        headings(text);
         inside();
-        source(Files.readString(Path.of("src/main/java/RaisedDots.java")));
         due.close();
     }
 
@@ -31,6 +35,7 @@ public final class FaceTest {
     }
 
     private static void members() {
+        due.says("All numbers are whole.");
         Class<?> face = RaisedDots.class;
         due.is("public final", face.getModifiers(), Modifier.PUBLIC | Modifier.FINAL);
         Constructor<?>[] made = face.getDeclaredConstructors();
@@ -56,6 +61,47 @@ public final class FaceTest {
         due.is("the constants", constants.toString(), "[FULL, NONE, NOT, OUTSIDE, UNKNOWN]");
     }
 
+    /** Each line of the document's face stands in the class, with the same names, in the same order. */
+    private static void written(String text, String document) {
+        due.says("public final class RaisedDots {");
+        String face = document.substring(document.indexOf("```java") + 7);
+        face = face.substring(0, face.indexOf("```"));
+        int from = 0;
+        for (String line : face.split("\n")) {
+            String words = line.trim().replaceAll("\\);$", ") {");
+            if (words.isEmpty() || words.equals("}")) {
+                continue;
+            }
+            int place = text.indexOf(words + "\n", from);
+            due.is("'" + words + "' behind the line ahead of it", place >= from ? 1 : 0, 1);
+            from = Math.max(from, place);
+        }
+    }
+
+    private static void headings(String text) {
+        due.says("Ahead of the calls `rule`, `drop`, `set`, `drift` the interface says: ---- rules.");
+        under("rules", "rule drop set drift", text);
+        due.says("Ahead of the calls `text`, `wipe`, `undo`, `told`, `cell`, `line`, `ofRule`, `by` the interface says: ---- the text.");
+        under("the text", "text wipe undo told cell line ofRule by", text);
+        due.says("Ahead of the calls `feel`, `feelAll`, `read`, `fault`, `sign`, `rest` the interface says: ---- reading back.");
+        under("reading back", "feel feelAll read fault sign rest", text);
+        due.says("Ahead of the calls `keep`, `goBack` the interface says: ---- images.");
+        under("images", "keep goBack", text);
+    }
+
+    /** The public calls that stand between this heading and the next. */
+    private static void under(String heading, String want, String text) {
+        int begin = text.indexOf("    // ---- " + heading + "\n");
+        due.is("the heading is there: " + heading, begin >= 0 ? 1 : 0, 1);
+        int end = Math.max(begin, text.indexOf("    // ---- ", begin + 1));
+        Matcher call = Pattern.compile("(?m)^    public int (\\w+)\\(").matcher(text.substring(Math.max(0, begin), Math.max(0, end)));
+        List<String> calls = new ArrayList<>();
+        while (call.find()) {
+            calls.add(call.group(1));
+        }
+        due.is("the calls under " + heading, String.join(" ", calls), want);
+    }
+
     private static void inside() {
         Set<String> names = Arrays.stream(FACE).map(s -> s.substring(0, s.indexOf('('))).collect(Collectors.toSet());
         Set<Class<?>> all = new java.util.HashSet<>(Set.of(RaisedDots.class.getDeclaredClasses()));
@@ -76,27 +122,6 @@ public final class FaceTest {
                 boolean twice = names.contains(method.getName()) && !Modifier.isPublic(method.getModifiers());
                 due.is(method + " bears a name of its own", twice ? 1 : 0, 0);
                 due.is(method + " takes at most seven", method.getParameterCount() <= 7 ? 1 : 0, 1);
-            }
-        }
-    }
-
-    private static void source(String text) {
-        due.is("signs 1 to 127 alone", text.matches("(?s)[\\x01-\\x7f]*") ? 1 : 0, 1);
-        String code = text.replaceAll("(?s)/\\*.*?\\*/", " ").replaceAll("//[^\n]*", " ");
-        Matcher word = Pattern.compile("\\b(throw|throws|try|catch|finally|synchronized|assert|import|package|protected|volatile|transient"
-            + "|native|var|Object|Exception|Thread|Random|System\\.(?!arraycopy)\\w+|Math\\.\\w+Exact)\\b|->|::|@").matcher(code);
-        while (word.find()) {
-            due.is("a word that LANGUAGE.md leaves out", word.group(), "none");
-        }
-        int begin = 0;
-        String[] lines = text.split("\n");
-        for (int i = 0; i < lines.length; i++) {
-            if (lines[i].matches(" {4}(public|private).*\\{| {8}[a-zA-Z].*\\) \\{")) {
-                begin = i;
-            } else if (lines[i].matches(" {4}\\}| {8}\\}")) {
-                boolean isShort = i - begin <= 60 || lines[begin].contains("class");
-                due.is("the method at line " + (begin + 1) + " is short", isShort ? 1 : 0, 1);
-                begin = i;
             }
         }
     }

@@ -22,7 +22,7 @@ public final class ImageTest {
                 due.is("goBack(" + i + ")", state.make().goBack(i), RaisedDots.UNKNOWN);
             }
         }
-        due.says("IMAGES 0, 1 keep RULES, W, P, THE TEXT.");
+        due.says("IMAGE i becomes what is so (nothing can be undone then): how many RULES. UNKNOWN.");
         due.is("keep(0)", States.SOME.make().keep(0), 3);
         due.is("keep(1)", States.SOME.make().keep(1), 3);
     }

@@ -45,7 +45,7 @@ public final class OfRuleTest {
     }
 
     private static void all() {
-        due.says("what = 0 CODE, 1 CELL, 2 KIND, 3 how often it serves in THE TEXT, 4 how many CELLS it would have without it, "
+        due.says("Of a RULE: what = 0 CODE, 1 CELL, 2 KIND, 3 how often it serves in THE TEXT, 4 how many CELLS it would have without it, "
             + "5 the first SIGN at which it serves (NONE).");
         Dots x = new Dots().withRule("abc", 40, 0).withRule("ab", 41, 2).withRule("cd", 42, 3).withRule("zz", 43, 4);
         x.typed("1.abcd ABD xcd abcd");

@@ -4,6 +4,7 @@ public final class PutTest {
 
     public static void main(String[] args) {
         signs();
+        cellsStandFor();
         capitals();
         kinds();
         nothingAhead();
@@ -40,6 +41,26 @@ public final class PutTest {
         put(" ", "0");
         put("  ", "0 0");
         put("a-b. c,", "1 29 2 27 0 3 28");
+    }
+
+    private static void cellsStandFor() {
+        due.says("CELLS 0 .. 63: the letter 97 and k is CELL 1 and k (1 .. 26); point 27, comma 28, stroke 29, blank 0; "
+            + "30 .. 59 stand for RULES; 60 CAPITAL, 61 FIGURES, 62 LETTERS, 63 none.");
+        for (int cell = 30; cell <= 59; cell++) {
+            Dots x = new Dots().withRule("qu", cell, 0).typed("quit");
+            due.is("the cells of 'quit', qu being " + cell, x.cells(), cell + " 9 20");
+            due.is("the signs of cell " + cell, x.felt(cell).signs(), "qu");
+        }
+        put("Q", "60 17");
+        put("7", "61 7");
+        put("7g", "61 7 62 7");
+        for (int cell = 0; cell <= 62; cell++) {
+            // 30 .. 59 by a rule, CAPITAL and FIGURES with a letter behind, LETTERS behind figures
+            Dots x = new Dots().withRule("qu", cell >= 30 && cell <= 59 ? cell : 30, 0);
+            x = cell == 62 ? x.felt(61, 1, 62, 1) : cell >= 60 ? x.felt(cell, 1) : x.felt(cell);
+            due.is("fault() of cell " + cell, x.fault(), RaisedDots.NONE);
+        }
+        due.is("63 is none", Due.felt(63).read(), -11);
     }
 
     private static void capitals() {

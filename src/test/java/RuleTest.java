@@ -5,6 +5,7 @@ public final class RuleTest {
     public static void main(String[] args) {
         numbers();
         leastAndGreatestCodes();
+        eachLetter();
         tooFewOrTooManyLetters();
         nothingAtALettersPlace();
         belowZeroAndFarAway();
@@ -28,6 +29,8 @@ public final class RuleTest {
     }
 
     private static void numbers() {
+        due.says("A RULE of letters (a CODE: 0, then for each letter 27 times as much, and the letter less 96; 2 to 4 letters), "
+            + "a CELL, a KIND: its number.");
         due.says("What has a number has it from 0 on, as it comes.");
         Dots x = new Dots();
         due.is("the first", x.rule(Due.code("ab"), 44, 2), 0);
@@ -52,8 +55,26 @@ public final class RuleTest {
         }
     }
 
+    /** Each letter at each place of two, three and four. */
+    private static void eachLetter() {
+        due.says("2 to 4 letters (97 .. 122), a CELL 30 .. 59, a KIND");
+        for (int count = 2; count <= 4; count++) {
+            for (int place = 0; place < count; place++) {
+                for (char letter = 'a'; letter <= 'z'; letter++) {
+                    StringBuilder letters = new StringBuilder("mnop".substring(0, count));
+                    letters.setCharAt(place, letter);
+                    Dots x = new Dots();
+                    due.is("rule of " + letters, x.rule(Due.code(letters.toString()), 33, 0), 0);
+                    due.is("its code", x.ofRule(0, 0), Due.code(letters.toString()));
+                    due.is("its letters", x.felt(33).signs(), letters.toString());
+                    due.is("it serves for " + letters, x.typed(letters.toString()).cells(), "33");
+                }
+            }
+        }
+    }
+
     private static void tooFewOrTooManyLetters() {
-        due.says("OUTSIDE (a CODE of no such letters, too)");
+        due.says("OUTSIDE (a CODE of no such letters, too), NOT: the CELL, the letters have one; FULL (12).");
         outside(0, 30, 0);
         outside(Due.code("a"), 30, 0);
         outside(Due.code("z"), 30, 0);

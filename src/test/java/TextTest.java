@@ -10,7 +10,7 @@ public final class TextTest {
     }
 
     private static void bounds() {
-        due.says("letters 97 .. 122, CAPITALS 65 .. 90, figures 48 .. 57, the point 46, the comma 44, the stroke 45, the blank 32.");
+        due.says("SIGNS of a text: letters 97 .. 122, CAPITALS 65 .. 90, figures 48 .. 57, the point 46, the comma 44, the stroke 45, the blank 32.");
         int[] within = {32, 44, 45, 46, 48, 57, 65, 90, 97, 122};
         for (int sign : within) {
             Dots x = new Dots();

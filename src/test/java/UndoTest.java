@@ -149,7 +149,7 @@ public final class UndoTest {
     }
 
     private static void whatStays() {
-        due.says("the latest of rule(), drop(), set(), drift(), text(), wipe() that was not refused");
+        due.says("UNDONE: the latest of rule(), drop(), set(), drift(), text(), wipe() that was not refused");
         Dots x = Due.typed("a");
         x.feel(5);
         due.is("feel is not kept", x.told(10), 1);
