@@ -95,6 +95,10 @@ public final class OfRuleTest {
         Dots fewer = new Dots().withRule("abc", 30, 0).withRule("ab", 31, 0).withRule("cdef", 32, 0).typed("abcdef");
         due.is("CELLS", fewer.told(5), 4);
         due.is("fewer without it", fewer.ofRule(0, 4), 2);
+        fewer.withRule("zz", 33, 0);
+        due.is("FEWEST", fewer.told(6), 2);
+        due.is("CELLS, not FEWEST, without one that does not serve", fewer.ofRule(3, 4), 4);
+        due.is("CELLS, not FEWEST, without one of those that FEWEST would choose", fewer.ofRule(2, 4), 4);
         Dots twelve = States.FULL.make();
         for (int k = 0; k < 12; k++) {
             int asked = twelve.ofRule(k, 4);
